@@ -210,6 +210,11 @@ public final class HousesTest {
         read("lane 4;lane 4;", -17);
         read("lane 4;laneone 0 0 9;", -17);
         read("lane 4;o", -17);
+        read("bane 4;", -10);
+        read("lane 4;bounts 9;", -17);
+        read("lane 4;onez 0 0 9;", -17);
+        read("lane 4;onea 0 0 9;", -17);
+        read("lanez4;", -10);
         read("lane 4;one 6 0 9;", -21);
         read("lane 4;one 0 2 9;", -23);
         read("lane 4;one 0 0 10;", -25);

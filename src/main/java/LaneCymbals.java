@@ -235,7 +235,7 @@ public final class LaneCymbals {
     }
 
     public int hear() {
-        return trial.bestCount(now.lane, trial.lanesThatFit(now.lane, now.soundings));
+        return Trial.bestCount(now.lane, trial.lanesThatFit(now.lane, now.soundings));
     }
 
     public int note(int i, int a, int c, int x) {
@@ -977,12 +977,11 @@ public final class LaneCymbals {
         }
 
         /** The count that parts the lanes of these bits best. */
-        int bestCount(Lane now, int bits) {
-            lane.copyFrom(now);
+        static int bestCount(Lane now, int bits) {
             int best = NONE;
             int least = WIDTHS + 1;
-            for (int c = 0; bits != 0 && c < HEARABLE; c++) {
-                int sounding = Integer.bitCount(bits & lanesUpTo(lane.reachAt(c, NONE)));
+            for (int c = 0; now != null && bits != 0 && c < HEARABLE; c++) {
+                int sounding = Integer.bitCount(bits & lanesUpTo(now.reachAt(c, NONE)));
                 int greater = Math.max(sounding, Integer.bitCount(bits) - sounding);
                 if (greater < least) {
                     least = greater;
