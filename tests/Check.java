@@ -1,16 +1,26 @@
 /** What the tests of this project share: due answers, and texts typed byte by byte. */
 final class Check {
     private static int passed, failed;
+    private static String words = "";
 
     private Check() {
     }
 
+    /** Names the promise, or the word of "Terms", that the answers from now on stand under. */
+    static void under(String promiseOrTerm) {
+        words = promiseOrTerm + ": ";
+    }
+
     static void due(String call, long got, long want) {
-        if (got == want) {
+        same(call, Long.toString(got), Long.toString(want));
+    }
+
+    static void same(String what, String got, String want) {
+        if (got.equals(want)) {
             passed++;
         } else {
             failed++;
-            System.out.println(call + " answered " + got + ", due is " + want);
+            System.out.println(words + what + " answered " + got + ", due is " + want);
         }
     }
 

@@ -14,6 +14,7 @@ public final class CountsTest {
     }
 
     private static void counts() {
+        Check.under("Promise 9, counts");
         LaneCymbals x = Check.told("lane 10;one 0 0 9;one 0 1 8;");
         Check.due("counts(0)", x.counts(0), -2);
         Check.due("counts(100)", x.counts(100), -2);
@@ -34,6 +35,7 @@ public final class CountsTest {
     }
 
     private static void theLastCount() {
+        Check.under("Promise 9, counts, at 9999");
         LaneCymbals x = Check.told("lane 4;one 0 0 9;one 0 1 9;counts 98;");
         for (int k = 0; k < 100; k++) {
             x.counts(99);
@@ -53,6 +55,7 @@ public final class CountsTest {
     }
 
     private static void swings() {
+        Check.under("Promise 10, swings");
         LaneCymbals x = Check.told("lane 10;one 0 0 9;one 0 1 1;");
         Check.due("swings(-1, 0)", x.swings(-1, 0), -2);
         Check.due("swings(2, 0)", x.swings(2, 0), -2);
@@ -71,6 +74,7 @@ public final class CountsTest {
     }
 
     private static void sends() {
+        Check.under("Promise 11, sends");
         LaneCymbals x = Check.told("lane 10;one 0 0 9;one 0 1 1;aunt 0 0;aunt 0 1;");
         Check.due("sends(-1, 0)", x.sends(-1, 0), -2);
         Check.due("sends(2, 0)", x.sends(2, 0), -2);
@@ -91,6 +95,7 @@ public final class CountsTest {
     }
 
     private static void undo() {
+        Check.under("Promise 12, undo");
         LaneCymbals x = Check.told("lane 10;one 0 0 9;one 0 1 9;aunt 0 0;");
         x.counts(2);
         x.heard(1, 1);
@@ -120,6 +125,7 @@ public final class CountsTest {
     }
 
     private static void undoOfEight() {
+        Check.under("Promise 12, undo");
         LaneCymbals x = Check.told("lane 10;one 0 0 0;");
         for (int a = 1; a <= 9; a++) {
             x.swings(0, a);
@@ -134,6 +140,7 @@ public final class CountsTest {
     }
 
     private static void of() {
+        Check.under("Promise 13, of");
         LaneCymbals x = Check.told("lane 10;one 1 0 7;one 5 1 8;");
         int[][] facts = {{1, 0, 7}, {5, 1, 8}};
         for (int i = 0; i < 2; i++) {
@@ -150,6 +157,7 @@ public final class CountsTest {
     }
 
     private static void about() {
+        Check.under("Promise 14, about");
         LaneCymbals x = Check.told("lane 10;aunt 4 1;aunt 3 0;away 0;");
         int[][] facts = {{4, 1, 0}, {3, 0, 1}};
         for (int i = 0; i < 2; i++) {

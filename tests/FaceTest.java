@@ -33,6 +33,7 @@ public final class FaceTest {
     }
 
     private static void constants() {
+        Check.under("The public face");
         Check.due("NONE", LaneCymbals.NONE, -1);
         Check.due("BAD", LaneCymbals.BAD, -2);
         Check.due("NO", LaneCymbals.NO, -3);
@@ -52,6 +53,7 @@ public final class FaceTest {
     }
 
     private static void methods() {
+        Check.under("The public face");
         Set<String> due = new TreeSet<>(Set.of(FACE.split(" ")));
         Set<String> got = new TreeSet<>();
         for (Method m : LaneCymbals.class.getDeclaredMethods()) {
@@ -69,6 +71,7 @@ public final class FaceTest {
     }
 
     private static void noOtherMember() {
+        Check.under("The public face and LANGUAGE.md, rule 1");
         Set<String> face = new TreeSet<>();
         for (String method : FACE.split(" ")) {
             face.add(method.substring(0, method.indexOf('(')));
@@ -94,6 +97,7 @@ public final class FaceTest {
     }
 
     private static void language() throws IOException {
+        Check.under("LANGUAGE.md");
         String source = Files.readString(Path.of("src/main/java/LaneCymbals.java"));
         String code = source.replaceAll("(?s)/\\*.*?\\*/", " ").replaceAll("//[^\n]*", " ")
                 .replaceAll("\"[^\"\n]*\"", "\"\"");
@@ -105,6 +109,7 @@ public final class FaceTest {
     }
 
     private static void extremes() throws Exception {
+        Check.under("LANGUAGE.md, rule 7");
         Random random = new Random(9);
         for (int run = 0; run < 40; run++) {
             LaneCymbals x = run % 2 == 0 ? new LaneCymbals()

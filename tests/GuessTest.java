@@ -20,6 +20,7 @@ public final class GuessTest {
     }
 
     private static void heard() {
+        Check.under("Promise 24, heard");
         LaneCymbals x = new LaneCymbals();
         int[][] wrong = {{-1, 0}, {100, 0}, {0, -1}, {0, 2}};
         for (int[] w : wrong) {
@@ -37,6 +38,7 @@ public final class GuessTest {
     }
 
     private static void lanes() {
+        Check.under("Promise 25, lanes");
         LaneCymbals x = Check.told("lane 30;one 0 0 9;one 0 1 8;one 4 0 3;one 4 1 2;");
         int all = (1 << 27) - 1;
         int upTo17 = (1 << 14) - 1;
@@ -57,6 +59,7 @@ public final class GuessTest {
     }
 
     private static void swung() {
+        Check.under("Promise 26, swung");
         LaneCymbals x = Check.told("lane 12;one 0 0 9;one 0 1 5;one 2 1 4;");
         Check.due("none heard", x.swung(0), 1023);
         x.heard(1, 1);
@@ -77,6 +80,7 @@ public final class GuessTest {
     }
 
     private static void hear() {
+        Check.under("Promise 27, hear");
         LaneCymbals x = Check.told("lane 12;one 0 0 9;one 0 1 8;one 4 0 5;one 4 1 7;");
         Check.due("14 and 13 at 1; 11 and 16 at 0", x.hear(), 1);
         x.heard(1, 1);
@@ -93,6 +97,7 @@ public final class GuessTest {
     }
 
     private static void note() {
+        Check.under("Promise 28, note");
         LaneCymbals x = Check.told("lane 4;one 0 0 9;counts 1;");
         x.counts(1);
         int[][] wrong = {{-1, 0, 0, 0}, {1, 0, 0, 0}, {0, -1, 0, 0}, {0, 10, 0, 0}, {0, 0, -1, 0},
@@ -111,6 +116,7 @@ public final class GuessTest {
     }
 
     private static void mark() {
+        Check.under("Promise 29, mark");
         LaneCymbals x = Check.told("lane 4;aunt 0 0;");
         x.counts(1);
         int[][] wrong = {{-1, 0, 0, 0}, {1, 0, 0, 0}, {0, -21, 0, 0}, {0, 21, 0, 0}, {0, 0, -1, 0},
@@ -129,6 +135,7 @@ public final class GuessTest {
     }
 
     private static void forget() {
+        Check.under("Promise 30, forget");
         LaneCymbals x = Check.told("lane 4;one 0 0 9;aunt 0 0;");
         x.counts(1);
         x.heard(0, 0);
@@ -158,6 +165,7 @@ public final class GuessTest {
     }
 
     private static void is() {
+        Check.under("Promise 31, is");
         Check.due("PLAIN, CHOKE", noted(5, 1, 5).is(1), 9);
         Check.due("GIRL, BRASS", noted(5, 1, 6).is(1), 34);
         Check.due("ELDER", noted(5, 1, 2).is(1), 4);
@@ -175,6 +183,7 @@ public final class GuessTest {
     }
 
     private static void look() {
+        Check.under("Promise 32, look");
         LaneCymbals x = noted(5, 1, 5);
         Check.due("of all", x.look(0), 12);
         Check.due("PLAIN or CHOKE", x.look(1), 31);
@@ -198,6 +207,7 @@ public final class GuessTest {
     }
 
     private static void kinds() {
+        Check.under("Promise 33, kinds");
         Check.due("AUNT, FEATHER", marked(5, 1, 3).kinds(1), 3);
         Check.due("SOFT, DEAF", marked(5, 1, 5).kinds(1), 24);
         Check.due("STRICT, GREAT", marked(5, 1, 1).kinds(1), 36);
@@ -218,6 +228,7 @@ public final class GuessTest {
     }
 
     private static void ask() {
+        Check.under("Promise 34, ask");
         LaneCymbals x = marked(5, 1, 3);
         Check.due("of all", x.ask(0), 103);
         Check.due("AUNT or FEATHER", x.ask(1), 9);
@@ -231,6 +242,7 @@ public final class GuessTest {
     }
 
     private static void game() {
+        Check.under("Promise 35, game");
         LaneCymbals x = Check.told("lane 10;one 0 0 3;one 0 1 9;aunt 0 1;");
         Check.due("however far he swings: he gets 0", x.game(0, 0, 1, -1), 10);
         for (int k = 0; k < 10; k++) {
@@ -261,6 +273,7 @@ public final class GuessTest {
     }
 
     private static void slips() {
+        Check.under("Promise 36, slips");
         LaneCymbals x = Check.told("lane 15;one 0 0 9;one 0 1 9;aunt 0 0;aunt 2 1;aunt 5 0;away 2;");
         chance(x, 3, 3, 10);
         chance(x, 0, 0, 1);
@@ -306,6 +319,7 @@ public final class GuessTest {
     }
 
     private static void reigns() {
+        Check.under("Promise 37, reigns");
         int[] seeds = {0, 1, 7, 12345, 999999};
         for (int seed : seeds) {
             LaneCymbals x = Check.told("lane 4;one 0 0 9;one 1 1 9;one 4 0 5;one 4 1 5;one 5 0 3;aunt 0 1;counts 33;");

@@ -9,13 +9,13 @@ public final class HousesTest {
         aunt();
         typeAndClear();
         readWhatIsTold();
-        readFaults();
         readKeepsAllAtAFault();
         readTakesThePlaceOfAll();
         Check.end();
     }
 
     private static void newObject() {
+        Check.under("Promise 1, a new object");
         LaneCymbals x = new LaneCymbals();
         Check.counted("new", x, 0, 0, 0, 0, 0, 12, 0, 0, 0, 0, 0);
         Check.refused("new", x, 0, 0, 0);
@@ -28,6 +28,7 @@ public final class HousesTest {
     }
 
     private static void lane() {
+        Check.under("Promise 2, lane");
         LaneCymbals x = new LaneCymbals();
         Check.due("lane(4)", x.lane(4), 0);
         Check.due("count(5)", x.count(5), 4);
@@ -59,6 +60,7 @@ public final class HousesTest {
     }
 
     private static void wide() {
+        Check.under("Promise 3, wide");
         LaneCymbals x = Check.told("lane 10; one 0 0 6; one 0 1 6; aunt 0 0;");
         x.heard(1, 1);
         x.counts(2);
@@ -79,6 +81,7 @@ public final class HousesTest {
     }
 
     private static void one() {
+        Check.under("Promise 4, one");
         LaneCymbals x = new LaneCymbals();
         int[][] wrong = {{-1, 0, 0}, {6, 0, 0}, {0, -1, 0}, {0, 2, 0}, {0, 0, -1}, {0, 0, 10}};
         for (int[] w : wrong) {
@@ -100,6 +103,7 @@ public final class HousesTest {
     }
 
     private static void aunt() {
+        Check.under("Promise 5, aunt");
         LaneCymbals x = new LaneCymbals();
         int[][] wrong = {{-1, 0}, {6, 0}, {0, -1}, {0, 2}};
         for (int[] w : wrong) {
@@ -121,6 +125,7 @@ public final class HousesTest {
     }
 
     private static void typeAndClear() {
+        Check.under("Promises 6 and 7, type and clear");
         LaneCymbals x = new LaneCymbals();
         Check.due("type(-1)", x.type(-1), -2);
         Check.due("type(128)", x.type(128), -2);
@@ -149,6 +154,7 @@ public final class HousesTest {
     }
 
     private static void readWhatIsTold() {
+        Check.under("Promise 8, read");
         read("lane 4;", 1);
         read("lane 30;", 1);
         read("  lane   4  ;  ", 1);
@@ -176,71 +182,8 @@ public final class HousesTest {
         Check.due("15 times 99 counts", x.count(3), 1485);
     }
 
-    private static void readFaults() {
-        read("", -10);
-        read(" ", -11);
-        read("lane", -14);
-        read("lane ", -15);
-        read("lane 4", -16);
-        read("lane 4 ", -17);
-        read("lane 4;one", -20);
-        read("lane 4;one 0 0", -24);
-        read("lane 4;counts", -23);
-        read("lane 3;", -15);
-        read("lane 31;", -15);
-        read("lane 3", -15);
-        read("lane 004;", -15);
-        read("lane 4;counts 100;", -24);
-        read("lane 4;counts 0;", -24);
-        read("lane 4;123", -17);
-        read("lane;", -14);
-        read("lane 4 4;", -17);
-        read("lane 4 one", -17);
-        read("lane 4;;", -17);
-        read(";", -10);
-        read("7", -10);
-        read("lan 4;", -10);
-        read(" lanes 4;", -11);
-        read("one 0 0 9;", -10);
-        read("aunt 0 0;lane 4;", -10);
-        read("Lane 4;", -10);
-        read("laNe 4;", -10);
-        read("lane\t4;", -14);
-        read("lane -4;", -15);
-        read("lane 4;lane 4;", -17);
-        read("lane 4;laneone 0 0 9;", -17);
-        read("lane 4;o", -17);
-        read("bane 4;", -10);
-        read("lane 4;bounts 9;", -17);
-        read("lane 4;onez 0 0 9;", -17);
-        read("lane 4;onea 0 0 9;", -17);
-        read("lanez4;", -10);
-        read("lane 4;one 6 0 9;", -21);
-        read("lane 4;one 0 2 9;", -23);
-        read("lane 4;one 0 0 10;", -25);
-        read("lane 4;one 009;", -21);
-        read("lane 4;one 0 09;", -23);
-        read("lane 4;one 0 one", -23);
-        read("lane 4;aunt 6 0;", -22);
-        read("lane 4;aunt 0 2;", -24);
-        read("lane 4;away 0;", -22);
-        read("lane 4;away;", -21);
-        read("lane 4;aunt 0 0;away 1;", -31);
-        read("lane 4;aunt 0 0;away 4;", -31);
-        read("lane 4;{", -17);
-        read("lane 4;`", -17);
-        read("lane 4;/", -17);
-        read("lane 4;one 0:0 9;", -22);
-        String seven = "lane 4;" + "one 0 0 0;".repeat(7);
-        read(seven, 8);
-        read(seven + "one 0 0 0;", -10 - seven.length());
-        read(seven + "one", -10 - seven.length());
-        String four = "lane 4;" + "aunt 0 0;".repeat(4);
-        read(four, 5);
-        read(four + " aunt", -11 - four.length());
-    }
-
     private static void readKeepsAllAtAFault() {
+        Check.under("Promise 8, read, all stays");
         LaneCymbals x = Check.told("lane 9;one 0 0 9;one 0 1 9;aunt 0 0;");
         x.counts(2);
         x.heard(3, 1);
@@ -254,6 +197,7 @@ public final class HousesTest {
     }
 
     private static void readTakesThePlaceOfAll() {
+        Check.under("Promise 8, read");
         LaneCymbals x = Check.told("lane 9;one 0 0 9;one 0 1 9;aunt 0 0;");
         x.counts(2);
         x.heard(3, 1);

@@ -20,6 +20,7 @@ public final class SoundsTest {
     }
 
     private static void leansByKind() {
+        Check.under("Promise 15, leans");
         int[][] want = {
             {0, 5, 0, -5, 0, 5, 0, -5, 0, 5, 0, -5, 0},
             {0, 6, 0, -5, 0, 6, 0, -5, 0, 6, 0, -5, 0},
@@ -49,6 +50,7 @@ public final class SoundsTest {
     }
 
     private static void leansRefused() {
+        Check.under("Promise 15, leans");
         LaneCymbals x = Check.told("lane 4;one 0 0 9;");
         int[][] wrong = {{-1, 0, 0}, {1, 0, 0}, {7, 0, 0}, {0, -1, 0}, {0, 100, 0}, {0, 0, -1}, {0, 0, 2}};
         for (int[] w : wrong) {
@@ -58,6 +60,7 @@ public final class SoundsTest {
     }
 
     private static void leaningByAunt() {
+        Check.under("Promise 15, leans");
         int[] plainNine = {7, 4, 5, 9, 9, 5};
         int[] plainEight = {6, 6, 4, 8, 8, 4};
         int[] waverAtNought = {8, 5, 6, 8, 8, 0};
@@ -79,6 +82,7 @@ public final class SoundsTest {
     }
 
     private static void leaningByAunts() {
+        Check.under("Promise 15, leans");
         LaneCymbals x = Check.told("lane 4;one 5 0 9;aunt 1 0;aunt 0 1;aunt 0 0;");
         Check.due("12, its half, less 2", x.leans(0, 1, 1), 4);
         x = Check.told("lane 4;one 5 0 9;aunt 0 0;aunt 1 0;");
@@ -88,6 +92,7 @@ public final class SoundsTest {
     }
 
     private static void sound() {
+        Check.under("Promise 16, sound");
         LaneCymbals x = Check.told("lane 10;one 0 0 9;one 0 1 1;one 0 1 5;one 0 0 8;one 1 1 0;");
         Check.due("9 and 1, 9 and 5, 8 and 5", x.sound(1), 1 + 5 + 4);
         Check.due("sound(0)", x.sound(0), 0);
@@ -106,6 +111,7 @@ public final class SoundsTest {
     }
 
     private static void entry() {
+        Check.under("Promise 17, entry");
         LaneCymbals x = Check.told("lane 18;one 0 0 9;one 0 1 9;");
         Check.due("entry()", x.entry(), 1);
         x.counts(1);
@@ -121,6 +127,7 @@ public final class SoundsTest {
     }
 
     private static void then() {
+        Check.under("Promise 18, then");
         LaneCymbals x = Check.told("lane 10;one 0 0 9;one 0 1 8;counts 2;");
         int[] want = {8, 4, 2, 1, 8, 4};
         for (int m = 0; m < want.length; m++) {
@@ -133,6 +140,7 @@ public final class SoundsTest {
     }
 
     private static void still() {
+        Check.under("Promise 19, still");
         LaneCymbals x = Check.told("lane 12;one 0 0 9;one 0 1 9;aunt 0 0;aunt 2 1;");
         Check.due("the first count only", x.still(1), 0);
         Check.due("7 and 5 touch", x.still(2), -1);
@@ -158,6 +166,7 @@ public final class SoundsTest {
     }
 
     private static void push() {
+        Check.under("Promise 20, push");
         LaneCymbals x = Check.told("lane 10;one 0 0 9;one 0 1 9;one 2 1 0;");
         Check.due("push(0, 1)", x.push(0, 1), 1);
         Check.due("it sounds without", x.push(2, 1), 0);
@@ -177,6 +186,7 @@ public final class SoundsTest {
     }
 
     private static void widest() {
+        Check.under("Promise 21, widest");
         LaneCymbals x = Check.told("lane 30;one 0 0 9;one 0 1 8;one 0 0 5;");
         Check.due("9 and 8", x.widest(), 17);
         x.swings(0, 0);
@@ -195,6 +205,7 @@ public final class SoundsTest {
     }
 
     private static void wrong() {
+        Check.under("Promise 22, wrong");
         LaneCymbals x = Check.told("lane 10;one 0 0 9;one 0 1 1;one 0 1 5;");
         Check.due("whoever of house 1 stays away", x.wrong(1), 1);
         x.swings(2, 0);
@@ -216,6 +227,7 @@ public final class SoundsTest {
     }
 
     private static void marry() {
+        Check.under("Promise 23, marry");
         LaneCymbals x = Check.told("lane 10;one 0 0 9;one 0 1 7;");
         marriages(x, 1, 1, 0);
         x.swings(1, 6);
@@ -234,6 +246,7 @@ public final class SoundsTest {
     }
 
     private static void marryFirstWay() {
+        Check.under("Promise 23, marry");
         marriages(Check.told("lane 4;one 0 0 5;one 0 0 5;one 0 1 5;"), 1, -1, 2, 1);
         marriages(Check.told("lane 4;one 0 0 5;one 0 1 5;one 0 1 5;"), 1, 1, 0, -1);
         marriages(Check.told("lane 4;one 0 0 5;one 0 0 5;one 0 1 5;one 0 1 5;"), 2, 2, 3, 0, 1);
@@ -244,6 +257,7 @@ public final class SoundsTest {
     }
 
     private static void nothingIsChanged() {
+        Check.under("Promises 15 to 37, nothing is changed");
         LaneCymbals x = Check.told("lane 10;one 0 0 9;one 4 1 9;one 1 1 8;aunt 0 0;aunt 2 1;away 1;counts 3;");
         x.swings(0, 8);
         long before = x.digest();

@@ -12,6 +12,7 @@ public final class ThereTest {
     }
 
     private static void part() {
+        Check.under("Promise 38, part");
         LaneCymbals x = Check.told("lane 17;one 0 0 9;one 0 1 9;aunt 0 0;");
         x.slips(1, 4);
         Check.due("part(0)", x.part(0), 2);
@@ -24,6 +25,7 @@ public final class ThereTest {
     }
 
     private static void images() {
+        Check.under("Promises 39 and 40, image and from");
         LaneCymbals x = Check.told("lane 10;one 0 0 9;one 0 1 9;aunt 0 0;");
         x.counts(2);
         x.swings(0, 8);
@@ -66,6 +68,7 @@ public final class ThereTest {
     }
 
     private static void twoImages() {
+        Check.under("Promises 39 and 40, image and from");
         LaneCymbals x = new LaneCymbals();
         x.image(1);
         Check.due("from(0)", x.from(0), -3);
@@ -86,6 +89,7 @@ public final class ThereTest {
     }
 
     private static void status() {
+        Check.under("Promise 41, status");
         LaneCymbals x = new LaneCymbals();
         Check.due("status(3)", x.status(3), -1);
         Check.due("status(-1)", x.status(-1), -1);
@@ -121,6 +125,7 @@ public final class ThereTest {
     }
 
     private static void count() {
+        Check.under("Promise 42, count");
         LaneCymbals x = Check.told("lane 10;one 0 0 9;one 0 1 9;one 0 1 9;aunt 0 0;aunt 0 0;away 1;counts 2;");
         x.swings(1, 1);
         x.heard(0, 0);
@@ -148,6 +153,7 @@ public final class ThereTest {
     }
 
     private static void digest() {
+        Check.under("Promise 43, digest");
         LaneCymbals x = new LaneCymbals();
         Check.due("digest of a new object", x.digest(), of(0, 0, 0, 0, 0, 12, 0, 0, 0, 0, 0, 0, 1));
         x = Check.told("lane 17;one 1 0 8;one 0 1 9;aunt 0 0;aunt 3 1;away 1;counts 6;");
