@@ -17,6 +17,7 @@ public final class BoundsTest {
         playedThirtyFiveToThirtySeven();
         thereThirtyEightToFortyThree();
         severalWrongAtOnce();
+        numbersOfNobody();
         theHousesOfTheseTests();
         Check.end();
     }
@@ -431,6 +432,25 @@ public final class BoundsTest {
         Calls.bad("note(7,10,100,21) mark(4,21,100,21) slips(100,11) reigns(-1,61)");
         Calls.bad("leans(-1,100,2)", -1000);
         Calls.bad("game(-1,4,100,-2)", -10);
+    }
+
+    /** With 3 people and 2 aunts: all numbers that one or an aunt might have who has not come. */
+    private static void numbersOfNobody() {
+        Check.under("BAD, nobody of that number is there");
+        for (String i : new String[] {"3", "4", "5", "6"}) {
+            for (String call : "swings(I,1) of(I,0) push(I,1) swung(I) note(I,0,0,0) is(I) look(I)".split(" ")) {
+                Calls.refused(Calls::some, call.replace("I", i), -2, BAD);
+            }
+            Calls.refused(Calls::some, "leans(" + i + ",0,0)", -1000, BAD);
+            Calls.refused(Calls::some, "marry(" + i + ")", -10, BAD);
+            Calls.refused(Calls::some, "game(" + i + ",0,0,-1)", -10, BAD);
+        }
+        for (String i : new String[] {"2", "3"}) {
+            for (String call : "sends(I,0) sends(I,1) about(I,0) mark(I,0,0,0) kinds(I) ask(I)".split(" ")) {
+                Calls.refused(Calls::some, call.replace("I", i), -2, BAD);
+            }
+            Calls.refused(Calls::some, "game(0," + i + ",0,-1)", -10, BAD);
+        }
     }
 
     private static void theHousesOfTheseTests() {

@@ -8,6 +8,7 @@ public final class EntryToMarryTest {
         push();
         widest();
         wrong();
+        eachOne();
         marryUnlikeByTwo();
         marryWho();
         marryFirstWay();
@@ -115,12 +116,32 @@ public final class EntryToMarryTest {
         new Calls().run("lane(18) one(0,0,8) one(0,0,8) one(0,0,8) one(0,0,8) one(0,0,8) one(0,0,9) one(0,1,9)")
                 .due("wrong(1)", 96).run("wide(17)").due("wrong(1)", 64).run("wide(19)").due("wrong(1)", 0);
         new Calls().run("lane(12) one(5,0,9) one(5,1,9) one(0,1,0)").due("wrong(1)", 3);
+        new Calls().run("lane(4) one(0,0,0) one(0,0,1) one(0,0,1) one(0,0,0) one(0,0,0) one(0,0,2) one(0,1,2)").due("wrong(1)", 96);
         Check.under("Terms, WRONG, 0: it does not SOUND");
         x.dueAll("wrong(0) 0 wrong(2) 0 wrong(3) 0 wrong(99) 0").run("wide(30)").due("wrong(1)", 0);
         new Calls().dueAll("wrong(0) 0 wrong(1) 0 wrong(99) 0");
         Check.under("Terms, WRONG, damped as they are");
         new Calls().run("lane(10) one(0,0,9) one(0,0,9) one(0,1,3) aunt(0,0)").due("wrong(1)", 4)
                 .run("swings(1,8)").due("wrong(1)", 5).run("sends(0,0)").due("wrong(1)", 4);
+    }
+
+    /** Each number once is the only one of his house who leans: all that is asked hears him. */
+    private static void eachOne() {
+        for (int i = 0; i < 14; i++) {
+            StringBuilder houses = new StringBuilder("lane(18)");
+            for (int k = 0; k < 7; k++) {
+                boolean isHe = k == i % 7;
+                boolean isOther = k == (i + 1) % 7;
+                houses.append(" one(0,").append(isOther ? 1 - i / 7 : i / 7).append(isHe || isOther ? ",9)" : ",0)");
+            }
+            Check.under("Terms, each of 7 PEOPLE counts, number " + i % 7);
+            int bits = 1 << i % 7 | 1 << (i + 1) % 7;
+            Calls x = new Calls().run(houses.toString());
+            x.dueAll("sound(1) 1 entry() 1 widest() 18 hear() 1 lanes() 134217727 still(2) -1 then(2) 1").due("wrong(1)", bits);
+            x.dueAll("push(I,1) 9 push(J,1) 9".replace("I", "" + i % 7).replace("J", "" + (i + 1) % 7));
+            x.run("heard(1,1)").dueAll("swung(I) 512 lanes() 32767 counts(2) 1".replace("I", "" + i % 7));
+            x.run("wide(4)").due("wrong(1)", bits);
+        }
     }
 
     private static void pair(String who, boolean alike) {
@@ -175,6 +196,8 @@ public final class EntryToMarryTest {
         ways("one(0,0,5) one(0,1,5) one(0,1,5) one(0,1,5)", 1, 1, 0, -1, -1);
         ways("one(0,1,5) one(0,0,5) one(0,0,5) one(0,0,5)", 1, 3, -1, -1, 0);
         ways("one(0,0,5) one(0,0,5) one(0,0,5) one(0,1,5) one(0,1,5) one(0,1,5) one(0,1,5)", 3, 3, 4, 5, 0, 1, 2, -1);
+        ways("one(0,1,9) one(0,1,9) one(0,1,9) one(0,1,9) one(0,1,9) one(0,1,5) one(0,0,5)", 1, -1, -1, -1, -1, -1, 6, 5);
+        ways("one(0,0,5) one(0,0,9) one(0,0,9) one(0,0,9) one(0,0,9) one(0,0,9) one(0,1,5)", 1, 6, -1, -1, -1, -1, -1, 0);
         ways("one(0,0,0) one(0,0,3) one(0,1,2) one(0,1,5)", 2, 2, 3, 0, 1);
         ways("one(0,0,3) one(0,0,0) one(0,1,2) one(0,1,5)", 2, 3, 2, 1, 0);
         Check.under("Terms, MARRY, each alone first, then by whom rising");

@@ -12,6 +12,7 @@ public final class HeardToReignsTest {
         what();
         ask();
         girlAndAunt();
+        girlAndAuntByNumber();
         girlAndAuntRest();
         slips();
         slipsOfFour();
@@ -159,6 +160,22 @@ public final class HeardToReignsTest {
         x.run("swings(3,0)").dueAll("game(0,0,1,-1) 1 game(0,0,1,0) 0").run("swings(3,8)").dueAll("game(0,0,1,-1) 1 game(0,0,1,0) 0");
     }
 
+    private static void girlAndAuntByNumber() {
+        Check.under("Terms, GIRL and AUNT, somebody, an AUNT, each by number");
+        Calls x = new Calls().run("lane(10) one(0,0,0) one(4,1,9) one(0,1,0) one(0,0,9) aunt(0,0) aunt(5,1) sends(0,0) sends(1,0)");
+        // Number 2 gets 0 by any swing; GREAT, number 1, is away as long as that costs her 2 at most.
+        x.dueAll("game(2,1,1,-1) 3 game(2,1,1,2) 2 game(2,1,1,3) -5 game(2,0,1,-1) 10 game(2,0,1,9) 9 game(0,1,1,-1) 1")
+                .dueAll("game(0,0,1,-1) 1 game(3,1,1,-1) 1 game(3,1,1,0) 0");
+        x.run("swings(2,9)").dueAll("game(0,1,1,-1) 1 game(0,1,1,0) 10 game(3,1,1,-1) 3 game(3,1,1,2) 2 game(1,0,1,-1) 2")
+                .dueAll("game(1,0,1,0) 0 game(1,0,1,1) 10 game(1,0,1,2) -5");
+        Check.under("Terms, GIRL and AUNT, also an AUNT who makes it louder");
+        // 10 is 5 by FEATHER alone, but 8 and then 6 if AUNT comes first.
+        x = new Calls().run("lane(10) one(1,0,9) one(5,1,9) aunt(0,0) aunt(1,0)").due("sound(1)", 9).run("sends(0,0)").due("sound(1)", 8);
+        x.dueAll("leans(0,1,1) 5 game(0,0,1,-1) 8 game(0,0,1,0) 4 game(0,0,1,3) 7 game(0,0,1,4) 14 game(0,0,1,7) 17");
+        // Whoever tells nothing by his swing gets 8 or 9: what he would get with her there is not his to choose.
+        x.run("one(4,1,5)").dueAll("game(2,0,1,-1) 1 game(2,0,1,0) 0 game(2,0,1,1) -5");
+    }
+
     /** Whether neither would get more by doing otherwise, told by sound alone. */
     private static String resting(Calls x, int i, int aunt, int c) {
         long[] sounds = new long[20];
@@ -181,7 +198,7 @@ public final class HeardToReignsTest {
         Check.under("Terms, GIRL and AUNT, neither would get more by doing otherwise");
         for (int kind = 0; kind < 36; kind++) {
             String houses = "lane(" + (8 + kind % 5) + ") one(" + kind % 6 + ",0,5) one(0,1,7) one(5,1,9) one(4,1,8) one(4,1,4)"
-                    + " aunt(" + kind / 6 + "," + kind % 2 + ") aunt(" + kind % 6 + ",0)";
+                    + " aunt(" + kind / 6 + "," + kind / 6 % 2 + ") aunt(" + kind % 6 + ",0)";
             for (int c = 0; c <= 5; c++) {
                 Calls x = new Calls().run(houses);
                 StringBuilder got = new StringBuilder();
@@ -265,6 +282,12 @@ public final class HeardToReignsTest {
         // X is 12345 at first: number 0 swings by 0 ahead of the count that comes.
         new Calls().run("lane(18) one(0,0,9) one(0,1,9) counts(1)").dueAll("sound(1) 1 reigns(0,1) 0 reigns(0,60) 0 entry() 0");
         new Calls().run("lane(4) one(0,1,9) one(0,0,9) one(0,0,0) one(0,0,1)").dueAll("reigns(999999,2) 22");
+        Check.under("Terms, REIGNS, cut; what is left over");
+        // X is 193 times 1048576 less 1: number 0 swings by 2. X is 1605 times 1048576: number 4 swings by 5.
+        new Calls().run("lane(4) one(0,0,9) one(0,1,9) counts(1)").due("reigns(899870,1)", 8);
+        new Calls().run("lane(4) one(0,1,9) one(0,0,0) one(0,0,0) one(0,0,0) one(0,0,0) counts(1)").due("reigns(501379,1)", 11);
+        // X is 2147483648 less 1171: number 0 swings by 7. X is 2208, by so little it is above: number 0 swings by 0.
+        new Calls().run("lane(4) one(0,0,9) one(0,1,9) counts(1)").dueAll("reigns(518020,1) 13 reigns(388515,1) 0");
         Check.under("Terms, REIGNS, COUNTS go beyond 9999");
         Calls.late().dueAll("reigns(0,1) 0 reigns(0,2) 8 reigns(0,3) 8 reigns(0,60) 47 reigns(999999,2) 0 reigns(999999,3) 3")
                 .dueAll("reigns(999999,60) 28 count(3) 9999 of(2,2) 9");

@@ -7,6 +7,7 @@ public final class TextTest {
         anyByteAtEachPlace();
         cutAtEachPlace();
         words();
+        tokensThatAreNoWords();
         laneOnceFirstOfAll();
         noMoreThanCanCome();
         numbersAsTold();
@@ -109,9 +110,8 @@ public final class TextTest {
         String[] none = {"lan", "lanes", "bane", "lame", "lanf", "lAne", "on", "ones", "ond", "aun", "aunts", "auns", "awa",
             "aways", "awat", "count", "countsa", "bounts", "countt", "a", "z", "lanelane", "oneone", "wide", "undo"};
         for (String word : none) {
-            faults("lane 4;" + word + " 0 0 0;", 7);
-            faults(" " + word + " 4;", 1);
             faults("lane 4;one 0 " + word, 13);
+            noItemBegins(word);
         }
         faults("Lane 4;", 0);
         faults("lanE 4;", 0);
@@ -120,6 +120,21 @@ public final class TextTest {
         faults("lanex4;", 0);
         faults("lane four;", 5);
         faults("lane 4;one 0 0 one", 15);
+    }
+
+    /** Whatever comes behind it would do for one of the words that are told. */
+    private static void noItemBegins(String token) {
+        for (String numbers : new String[] {"", " 0", " 1", " 4", " 0 0", " 0 0 0"}) {
+            faults(" " + token + numbers + ";", 1);
+            faults("lane 4;aunt 0 0;" + token + numbers + ";", 16);
+        }
+    }
+
+    private static void tokensThatAreNoWords() {
+        Check.under("Terms, FAULT, the first TOKEN of an ITEM is no word");
+        for (String token : new String[] {";", "4", "12", "123", "=", "{", "`", "A", "-", "\0", "\177"}) {
+            noItemBegins(token);
+        }
     }
 
     private static void laneOnceFirstOfAll() {

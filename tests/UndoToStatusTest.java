@@ -40,6 +40,11 @@ public final class UndoToStatusTest {
             x.due("undo()", 5).due("of(" + i + ",2)", swing[i]);
         }
         x.due("undo()", -3);
+        Check.under("Terms, UNDO, NOISE as loud as it gets");
+        x = new Calls().run("lane(4) one(5,0,9) one(5,1,9) one(5,0,9) one(5,1,9) one(5,0,9) one(5,1,9) one(5,0,9) aunt(2,0)");
+        x.run("sends(0,0) counts(6) counts(4) swings(6,0) sends(0,1) counts(1)").dueAll("count(4) 134 count(3) 11");
+        x.dueAll("undo() 10 count(4) 268 undo() 10 about(0,2) 0 undo() 10 of(6,2) 9 count(4) 268 undo() 6 count(4) 267 undo() 0")
+                .dueAll("count(4) 0 undo() 0 about(0,2) 1 undo() -3");
         Check.under("Terms, UNDO, what was undone may be done anew");
         x = new Calls().run("lane(4) one(0,0,9) one(0,1,9)");
         x.dueAll("counts(3) 7 undo() 0 counts(2) 15 count(9) 1 swings(0,1) 9 undo() 2 undo() 0 count(4) 0 undo() -3");
@@ -103,6 +108,13 @@ public final class UndoToStatusTest {
             kept = Calls.some().run("image(0) " + change + " from(0) " + change + " from(0)");
             Check.same("from(0) again behind " + change, kept.all(), want);
         }
+        String want = Calls.some().run("image(0)").all();
+        Calls other = Calls.some().run("image(0) forget(0) forget(1) forget(2) heard(7,0) heard(8,1) note(1,9,9,9) note(1,8,8,8)");
+        other.run("mark(1,1,1,1) mark(1,2,2,2) undo() undo() undo() counts(7) swings(2,1) swings(1,1) sends(1,0) from(0)");
+        Check.same("from(0) behind others in their place", other.all(), want);
+        other = Calls.some().run("image(0) lane(4) one(5,1,1) one(2,0,2) one(3,0,3) aunt(5,1) aunt(4,0) heard(7,0) heard(8,1)");
+        other.run("note(1,9,9,9) note(1,8,8,8) mark(1,1,1,1) mark(1,2,2,2) counts(7) swings(2,1) swings(1,1) from(0)");
+        Check.same("from(0) behind another lane", other.all(), want);
         Check.under("Terms, IMAGES, it goes on from one");
         Calls.some().run("image(0) lane(4) from(0)").dueAll("swings(0,1) 7 count(9) 4 one(0,0,3) 3 aunt(5,0) 2 heard(0,0) 3 counts(2) 1")
                 .dueAll("count(3) 4 from(0) 1 count(3) 2 count(0) 3 count(1) 2 count(6) 2 of(0,2) 7");
